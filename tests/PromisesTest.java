@@ -20,6 +20,7 @@ public final class PromisesTest {
     public static void main(String[] args) {
         theNewObject();
         theInput();
+        nothingIsLeftOfTheTextBefore();
         theErrors();
         theTokens();
         theOrderOfErrors();
@@ -124,6 +125,42 @@ public final class PromisesTest {
         is("lines", 2, () -> load(x, BASE + "child a 0 1 0 0;child b 5 20 99 0"));
         promise(21);
         is("99 at first", 99, () -> x.ageOf(1));
+    }
+
+    private static void nothingIsLeftOfTheTextBefore() {
+        InventedBirthdays x = loaded("registry 8 60;garden 9;garden 9;child a 0 20 0 0;child b 1 20 0 1;child c 1 20 0 1;cakes 0 9;"
+                + "birthday a 1 2;birthday b 1 2;birthday c 1 3;days 370;cakes 4 9");
+        x.buyCandles(5);
+        x.advance(720);
+        x.advance(720);
+        promise(3);
+        is("fewer children", 1, () -> load(x, "registry 1 2;garden 1;child d 3 4 5 0"));
+        promise(17);
+        is("no party", -1, () -> x.partyIn(0, 1, 2));
+        promise(34);
+        is("only garden 0", 0, () -> x.freeGarden(0, 1, 2));
+        promise(3);
+        fails("the old names are unknown", ARGUMENT, () -> load(x, "registry 1 2;garden 1;child d 3 4 5 0;draw b"));
+        promise(4);
+        is("unknown", 3, x::errorKind);
+        promise(38);
+        is("no party was held", 0, x::heldParties);
+        promise(39);
+        is("no party failed", 0, x::failedParties);
+        promise(43);
+        is("no wish was granted", 0, x::wishShare);
+        promise(26);
+        is("no wish was granted", 0, () -> x.wishesOf(0));
+        promise(25);
+        is("no party was held", 0, () -> x.partiesOf(0));
+        promise(12);
+        is("no cakes", 0, () -> x.cakes(0) + x.cakes(4));
+        promise(41);
+        is("no candle was bought or lit", 0, x::candleDifference);
+        promise(6);
+        is("the year", 0, x::year);
+        promise(8);
+        is("the day", 1, x::dayOfMonth);
     }
 
     private static void theErrors() {
@@ -465,7 +502,12 @@ public final class PromisesTest {
         promise(30);
         is("three", 3, x::differentDates);
         is("none", 0, loaded("registry 0 0")::differentDates);
+        is("all on one date", 1, loaded(BASE + "garden 3;child a 0 1 0 0;child b 0 1 0 1;birthday a 1 1;birthday b 1 1")::differentDates);
         promise(31);
+        InventedBirthdays pair = loaded(BASE + "garden 3;child a 0 1 0 0;child b 0 1 0 1;child c 0 1 0 1;birthday a 1 1;birthday b 1 1;birthday c 1 2");
+        is("the first child", 0, () -> pair.dateAt(0));
+        is("b has that of a", 1, () -> pair.dateAt(1));
+        fails("two dates", INDEX, () -> pair.dateAt(2));
         is("b", 150, () -> x.dateAt(0));
         is("c", 59, () -> x.dateAt(1));
         is("e", 0, () -> x.dateAt(2));
@@ -477,6 +519,8 @@ public final class PromisesTest {
         is("two on one date count twice", 6, x::busiestMonth);
         is("a tie", 2, loaded(BASE + "child a 0 1 0 0;child b 0 1 0 0;birthday a 12 30;birthday b 2 1")::busiestMonth);
         is("none", -1, loaded(BASE + "child a 0 1 0 0")::busiestMonth);
+        is("the first", 1, loaded(BASE + "child a 0 1 0 0;birthday a 1 30")::busiestMonth);
+        is("the last", 12, loaded(BASE + "child a 0 1 0 0;birthday a 12 1")::busiestMonth);
         promise(33);
         is("b is there", 1, () -> x.obstacle(0, 0, 6, 1));
         is("b itself", 0, () -> x.obstacle(1, 0, 6, 1));
@@ -679,6 +723,27 @@ public final class PromisesTest {
         int third = (second * 211 + 97) % 9973;
         is("it had one before", 1, () -> x.draw(1));
         is("another", third % 360, () -> x.birthdayOf(1));
+        String nine = "garden 12;child z 1 1 0 0";
+        int drawn = 9470;
+        String birthdays = "";
+        for (int i = 1; i <= 11; i++) {
+            drawn = (drawn * 211 + 97) % 9973;
+            String date = " " + (drawn % 360 / 30 + 1) + " " + (drawn % 30 + 1);
+            if (!birthdays.contains(date + ";")) {
+                char name = (char) ('a' + birthdays.chars().filter(sign -> sign == ';').count());
+                nine += ";child " + name + " 0 1 0 0";
+                birthdays += "birthday " + name + date + ";";
+            }
+        }
+        InventedBirthdays long12 = loaded("registry 9470 0;" + nine + ";" + birthdays.substring(0, birthdays.length() - 1));
+        is("nine dates are taken, two of them twice drawn", 12, () -> long12.drawsNeeded(0));
+        promise(45);
+        is("twelve", 12, () -> long12.draw(0));
+        InventedBirthdays always = loaded("registry 5176 0;garden 3;child a 0 1 0 0;child b 0 1 0 0;birthday a 5 17");
+        is("this seed draws itself", (5176 * 211 + 97) % 9973, always::seed);
+        fails("20 dates are not enough", STATE, () -> always.draw(1));
+        promise(35);
+        is("20 dates are not enough", -1, () -> always.drawsNeeded(1));
         InventedBirthdays full = loaded("registry 11 0;garden 1;garden 2;child a 0 1 0 0;child b 0 1 0 1;birthday b 1 1");
         promise(35);
         is("too small", -1, () -> full.drawsNeeded(0));

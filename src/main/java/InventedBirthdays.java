@@ -702,12 +702,12 @@ public final class InventedBirthdays {
         final int[] parties = new int[MOST_CHILDREN];
         final int[] wishes = new int[MOST_CHILDREN];
 
-        void begin() {
+        void begin(int firstSeed, int firstStock) {
             year = 0;
             date = 0;
-            seed = 0;
-            candles = 0;
-            firstCandles = 0;
+            seed = firstSeed;
+            candles = firstStock;
+            firstCandles = firstStock;
             boughtCandles = 0;
             litCandles = 0;
             failedParties = 0;
@@ -947,7 +947,6 @@ public final class InventedBirthdays {
             token = BLANK;
             tokenStart = 0;
             tokenEnd = 0;
-            result.begin();
             readHead();
             // Each line has at least one byte, so there can't be more lines than bytes.
             for (int line = 0; line < length && faultKind == 0 && nextIsLine(); line++) {
@@ -975,9 +974,9 @@ public final class InventedBirthdays {
             if (!tokenIs("registry")) {
                 fail(SYNTAX);
             }
-            result.seed = readNumber(0, SEEDS - 1);
-            result.candles = readNumber(0, MOST_CANDLES);
-            result.firstCandles = result.candles;
+            int seed = readNumber(0, SEEDS - 1);
+            int candles = readNumber(0, MOST_CANDLES);
+            result.begin(seed, candles);
         }
 
         private boolean nextIsLine() {
