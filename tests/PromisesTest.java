@@ -1,5 +1,3 @@
-import java.nio.charset.StandardCharsets;
-
 /** The promises one by one: ordinary inputs, the edges that the document names, and wrong inputs. */
 public final class PromisesTest {
     private interface Call {
@@ -120,27 +118,27 @@ public final class PromisesTest {
         is("a filled buffer is emptied", 20, () -> x.append(0, 0, 0, 0, 0));
         fails("no text at all", ARGUMENT, () -> x.load(0));
         String text = "registry 1 2" + " ".repeat(588);
-        is("600 bytes", 0, () -> load(x, text));
+        is("600 bytes", 0, () -> Loading.load(x, text));
         is("seed", 1, x::seed);
-        is("lines", 2, () -> load(x, BASE + "child a 0 1 0 0;child b 5 20 99 0"));
+        is("lines", 2, () -> Loading.load(x, BASE + "child a 0 1 0 0;child b 5 20 99 0"));
         promise(21);
         is("99 at first", 99, () -> x.ageOf(1));
     }
 
     private static void nothingIsLeftOfTheTextBefore() {
-        InventedBirthdays x = loaded("registry 8 60;garden 9;garden 9;child a 0 20 0 0;child b 1 20 0 1;child c 1 20 0 1;cakes 0 9;"
+        InventedBirthdays x = Loading.of("registry 8 60;garden 9;garden 9;child a 0 20 0 0;child b 1 20 0 1;child c 1 20 0 1;cakes 0 9;"
                 + "birthday a 1 2;birthday b 1 2;birthday c 1 3;days 370;cakes 4 9");
         x.buyCandles(5);
         x.advance(720);
         x.advance(720);
         promise(3);
-        is("fewer children", 1, () -> load(x, "registry 1 2;garden 1;child d 3 4 5 0"));
+        is("fewer children", 1, () -> Loading.load(x, "registry 1 2;garden 1;child d 3 4 5 0"));
         promise(17);
         is("no party", -1, () -> x.partyIn(0, 1, 2));
         promise(34);
         is("only garden 0", 0, () -> x.freeGarden(0, 1, 2));
         promise(3);
-        fails("the old names are unknown", ARGUMENT, () -> load(x, "registry 1 2;garden 1;child d 3 4 5 0;draw b"));
+        fails("the old names are unknown", ARGUMENT, () -> Loading.load(x, "registry 1 2;garden 1;child d 3 4 5 0;draw b"));
         promise(4);
         is("unknown", 3, x::errorKind);
         promise(38);
@@ -284,11 +282,11 @@ public final class PromisesTest {
         error("registry 1 2;garden 1;child a 0 1 0 0;child b 0 1 0 0;draw a;draw", 6, 59);
         InventedBirthdays x = new InventedBirthdays();
         promise(4);
-        fails("an error", ARGUMENT, () -> load(x, "registry 1"));
+        fails("an error", ARGUMENT, () -> Loading.load(x, "registry 1"));
         is("kind", 1, x::errorKind);
         promise(5);
         is("offset", 10, x::errorOffset);
-        fails("the next error", ARGUMENT, () -> load(x, "registry 9999 1"));
+        fails("the next error", ARGUMENT, () -> Loading.load(x, "registry 9999 1"));
         is("offset", 9, x::errorOffset);
         promise(4);
         is("kind", 2, x::errorKind);
@@ -297,14 +295,14 @@ public final class PromisesTest {
             x.undo();
             return x.errorKind();
         });
-        is("a good text", 0, () -> load(x, "registry 1 1"));
+        is("a good text", 0, () -> Loading.load(x, "registry 1 1"));
         is("kind", 0, x::errorKind);
         promise(5);
         is("offset", -1, x::errorOffset);
     }
 
     private static void theCalendarAndStocks() {
-        InventedBirthdays x = loaded("registry 0 9999;garden 2;cakes 0 1;cakes 5 99;child a 4 1 0 0;child b 1 1 0 0");
+        InventedBirthdays x = Loading.of("registry 0 9999;garden 2;cakes 0 1;cakes 5 99;child a 4 1 0 0;child b 1 1 0 0");
         promise(6);
         is("year", 0, x::year);
         promise(7);
@@ -315,7 +313,7 @@ public final class PromisesTest {
         is("seed", 0, x::seed);
         promise(10);
         is("97", 97, x::nextDraw);
-        is("seed 9972", (9972 * 211 + 97) % 9973 % 360, loaded("registry 9972 0")::nextDraw);
+        is("seed 9972", (9972 * 211 + 97) % 9973 % 360, Loading.of("registry 9972 0")::nextDraw);
         promise(11);
         is("candles", 9999, x::candles);
         promise(12);
@@ -327,8 +325,8 @@ public final class PromisesTest {
         }
         promise(13);
         is("a tie", 1, x::mostWantedCake);
-        is("none", 0, loaded("registry 0 0;garden 1;cakes 3 3")::mostWantedCake);
-        is("most", 5, loaded(BASE + "child a 0 1 0 0;child b 5 1 0 0;child c 5 1 0 0")::mostWantedCake);
+        is("none", 0, Loading.of("registry 0 0;garden 1;cakes 3 3")::mostWantedCake);
+        is("most", 5, Loading.of(BASE + "child a 0 1 0 0;child b 5 1 0 0;child c 5 1 0 0")::mostWantedCake);
         promise(7);
         x.advance(29);
         is("1/30", 1, x::month);
@@ -353,11 +351,11 @@ public final class PromisesTest {
     }
 
     private static void theGardens() {
-        InventedBirthdays x = loaded("registry 0 0;garden 1;garden 12;garden 7;child a 0 1 0 1;child b 1 1 0 2;child c 2 1 0 1;"
+        InventedBirthdays x = Loading.of("registry 0 0;garden 1;garden 12;garden 7;child a 0 1 0 1;child b 1 1 0 2;child c 2 1 0 1;"
                 + "birthday a 3 4;birthday b 3 4;birthday c 12 30");
         promise(14);
         is("three", 3, x::gardenCount);
-        is("none", 0, loaded("registry 0 0")::gardenCount);
+        is("none", 0, Loading.of("registry 0 0")::gardenCount);
         promise(15);
         is("seats", 1, () -> x.seatsOf(0));
         is("seats", 12, () -> x.seatsOf(1));
@@ -382,7 +380,7 @@ public final class PromisesTest {
             fails("garden first " + garden, INDEX, () -> x.partyIn(garden, 0, 0));
         }
         wrongDates((month, day) -> x.partyIn(0, month, day));
-        InventedBirthdays none = loaded("registry 0 0");
+        InventedBirthdays none = Loading.of("registry 0 0");
         fails("no garden", INDEX, () -> none.partyIn(0, 1, 1));
     }
 
@@ -398,11 +396,11 @@ public final class PromisesTest {
     }
 
     private static void theChildren() {
-        InventedBirthdays x = loaded("registry 7 50;garden 2;garden 9;child a 5 20 99 1;child b 0 1 0 0;child c 5 7 3 1;child d 5 3 3 1;"
+        InventedBirthdays x = Loading.of("registry 7 50;garden 2;garden 9;child a 5 20 99 1;child b 0 1 0 0;child c 5 7 3 1;child d 5 3 3 1;"
                 + "cakes 5 2;birthday a 1 2;birthday c 12 30;days 1");
         promise(18);
         is("four", 4, x::childCount);
-        is("none", 0, loaded("registry 0 0")::childCount);
+        is("none", 0, Loading.of("registry 0 0")::childCount);
         promise(19);
         is("5", 5, () -> x.cakeOf(0));
         is("0", 0, () -> x.cakeOf(1));
@@ -432,7 +430,7 @@ public final class PromisesTest {
         is("two guests", 22, () -> x.strengthOf(0));
         is("no guest", 1, () -> x.strengthOf(1));
         is("two guests", 9, () -> x.strengthOf(2));
-        InventedBirthdays many = loaded("registry 0 0;garden 2;garden 1;garden 3;child a 0 1 0 0;child b 0 5 0 1;child c 0 9 0 2;child d 0 2 0 0");
+        InventedBirthdays many = Loading.of("registry 0 0;garden 2;garden 1;garden 3;child a 0 1 0 0;child b 0 5 0 1;child c 0 9 0 2;child d 0 2 0 0");
         is("one seat for guests", 2, () -> many.strengthOf(0));
         is("no seat for guests", 5, () -> many.strengthOf(1));
         is("two seats for guests", 11, () -> many.strengthOf(2));
@@ -442,12 +440,12 @@ public final class PromisesTest {
         is("a, c has it today", 0, x::nextChild);
         x.setBirthday(1, 1, 2);
         is("a tie", 0, x::nextChild);
-        is("none", -1, loaded(BASE + "child a 0 1 0 0")::nextChild);
-        is("only today", 1, loaded(BASE + "child a 0 1 0 0;child b 0 1 0 0;birthday b 1 1")::nextChild);
+        is("none", -1, Loading.of(BASE + "child a 0 1 0 0")::nextChild);
+        is("only today", 1, Loading.of(BASE + "child a 0 1 0 0;child b 0 1 0 0;birthday b 1 1")::nextChild);
         for (int child : new int[] {-1, 4, 10, LOW, HIGH}) {
             wrongChild(x, child);
         }
-        wrongChild(loaded("registry 0 0"), 0);
+        wrongChild(Loading.of("registry 0 0"), 0);
     }
 
     private static void wrongChild(InventedBirthdays x, int child) {
@@ -492,7 +490,7 @@ public final class PromisesTest {
     }
 
     private static void theDates() {
-        InventedBirthdays x = loaded("registry 0 0;garden 9;garden 2;garden 1;child a 0 1 0 0;child b 1 1 0 0;child c 1 1 0 1;child d 0 1 0 1;child e 2 1 0 2;"
+        InventedBirthdays x = Loading.of("registry 0 0;garden 9;garden 2;garden 1;child a 0 1 0 0;child b 1 1 0 0;child c 1 1 0 1;child d 0 1 0 1;child e 2 1 0 2;"
                 + "birthday b 6 1;birthday c 2 30;birthday d 6 1;birthday e 1 1");
         promise(29);
         is("6/1", 2, () -> x.childrenOn(6, 1));
@@ -501,10 +499,10 @@ public final class PromisesTest {
         wrongDates(x::childrenOn);
         promise(30);
         is("three", 3, x::differentDates);
-        is("none", 0, loaded("registry 0 0")::differentDates);
-        is("all on one date", 1, loaded(BASE + "garden 3;child a 0 1 0 0;child b 0 1 0 1;birthday a 1 1;birthday b 1 1")::differentDates);
+        is("none", 0, Loading.of("registry 0 0")::differentDates);
+        is("all on one date", 1, Loading.of(BASE + "garden 3;child a 0 1 0 0;child b 0 1 0 1;birthday a 1 1;birthday b 1 1")::differentDates);
         promise(31);
-        InventedBirthdays pair = loaded(BASE + "garden 3;child a 0 1 0 0;child b 0 1 0 1;child c 0 1 0 1;birthday a 1 1;birthday b 1 1;birthday c 1 2");
+        InventedBirthdays pair = Loading.of(BASE + "garden 3;child a 0 1 0 0;child b 0 1 0 1;child c 0 1 0 1;birthday a 1 1;birthday b 1 1;birthday c 1 2");
         is("the first child", 0, () -> pair.dateAt(0));
         is("b has that of a", 1, () -> pair.dateAt(1));
         fails("two dates", INDEX, () -> pair.dateAt(2));
@@ -514,13 +512,13 @@ public final class PromisesTest {
         for (int index : new int[] {-1, 3, LOW, HIGH}) {
             fails("index " + index, INDEX, () -> x.dateAt(index));
         }
-        fails("no child", INDEX, () -> loaded("registry 0 0").dateAt(0));
+        fails("no child", INDEX, () -> Loading.of("registry 0 0").dateAt(0));
         promise(32);
         is("two on one date count twice", 6, x::busiestMonth);
-        is("a tie", 2, loaded(BASE + "child a 0 1 0 0;child b 0 1 0 0;birthday a 12 30;birthday b 2 1")::busiestMonth);
-        is("none", -1, loaded(BASE + "child a 0 1 0 0")::busiestMonth);
-        is("the first", 1, loaded(BASE + "child a 0 1 0 0;birthday a 1 30")::busiestMonth);
-        is("the last", 12, loaded(BASE + "child a 0 1 0 0;birthday a 12 1")::busiestMonth);
+        is("a tie", 2, Loading.of(BASE + "child a 0 1 0 0;child b 0 1 0 0;birthday a 12 30;birthday b 2 1")::busiestMonth);
+        is("none", -1, Loading.of(BASE + "child a 0 1 0 0")::busiestMonth);
+        is("the first", 1, Loading.of(BASE + "child a 0 1 0 0;birthday a 1 30")::busiestMonth);
+        is("the last", 12, Loading.of(BASE + "child a 0 1 0 0;birthday a 12 1")::busiestMonth);
         promise(33);
         is("b is there", 1, () -> x.obstacle(0, 0, 6, 1));
         is("b itself", 0, () -> x.obstacle(1, 0, 6, 1));
@@ -541,7 +539,7 @@ public final class PromisesTest {
         is("its own", 0, () -> x.freeGarden(1, 6, 1));
         is("not its own, the smallest", 0, () -> x.freeGarden(3, 6, 2));
         is("free", 0, () -> x.freeGarden(0, 12, 30));
-        is("the second", 1, loaded("registry 0 0;garden 1;garden 2;child a 0 1 0 0;child b 0 1 0 0"), y -> y.freeGarden(1, 1, 1));
+        is("the second", 1, Loading.of("registry 0 0;garden 1;garden 2;child a 0 1 0 0;child b 0 1 0 0"), y -> y.freeGarden(1, 1, 1));
         wrongDates((month, day) -> x.freeGarden(0, month, day));
     }
 
@@ -554,7 +552,7 @@ public final class PromisesTest {
     }
 
     private static void theForecasts() {
-        InventedBirthdays x = loaded("registry 0 30;garden 3;child a 0 20 4 0;child b 1 1 5 0;cakes 0 4;birthday a 1 3;birthday b 2 1");
+        InventedBirthdays x = Loading.of("registry 0 30;garden 3;child a 0 20 4 0;child b 1 1 5 0;cakes 0 4;birthday a 1 3;birthday b 2 1");
         promise(36);
         int[] days = {0, 1, 2, 29, 30, 361, 362, 390, 720};
         int[] left = {30, 30, 25, 25, 19, 19, 13, 6, 6};
@@ -580,14 +578,14 @@ public final class PromisesTest {
         is("nothing changes", 0, x::year);
         is("nothing changes", 4, () -> x.ageOf(0));
         fails("it is no change", STATE, x::undo);
-        InventedBirthdays last = atTheLastDay("garden 3;child a 0 20 4 0;birthday a 1 1;");
+        InventedBirthdays last = Loading.atTheLastDay("garden 3;child a 0 20 4 0;birthday a 1 1;");
         last.bakeCakes(0, 9);
         last.buyCandles(999);
         int age = last.ageOf(0);
         is("beyond the year 99", 999 - age - 1, () -> last.candlesAfter(1));
         is("beyond the year 99", 999 - age - 1 - age - 2, () -> last.candlesAfter(720));
         is("the year stays", 99, last::year);
-        InventedBirthdays wish = atTheLastDay("garden 3;child a 0 20 4 0;");
+        InventedBirthdays wish = Loading.atTheLastDay("garden 3;child a 0 20 4 0;");
         wish.setBirthday(0, 1, 1);
         wish.bakeCakes(0, 9);
         wish.buyCandles(999);
@@ -596,21 +594,11 @@ public final class PromisesTest {
         is("beyond the year 99", 2, () -> wish.wishesAfter(0, 361));
     }
 
-    /** 12/30 of the year 99. */
-    private static InventedBirthdays atTheLastDay(String lines) {
-        InventedBirthdays x = loaded("registry 0 0;" + lines + "days 359");
-        for (int i = 0; i < 49; i++) {
-            x.advance(720);
-        }
-        x.advance(360);
-        return x;
-    }
-
     private static void theMeasures() {
-        InventedBirthdays x = loaded("registry 0 30;garden 3;garden 3;child a 0 20 4 0;child b 1 1 5 1;child c 1 1 7 1;cakes 0 2;birthday a 1 2;birthday b 1 2;birthday c 1 3");
+        InventedBirthdays x = Loading.of("registry 0 30;garden 3;garden 3;child a 0 20 4 0;child b 1 1 5 1;child c 1 1 7 1;cakes 0 2;birthday a 1 2;birthday b 1 2;birthday c 1 3");
         promise(42);
         is("16 by 3", 16.0 / 3.0, x::meanAge);
-        is("none", 0.0, loaded("registry 0 0")::meanAge);
+        is("none", 0.0, Loading.of("registry 0 0")::meanAge);
         promise(43);
         is("none held", 0.0, x::wishShare);
         x.advance(2);
@@ -650,7 +638,7 @@ public final class PromisesTest {
 
     private static void theDays() {
         promise(44);
-        InventedBirthdays x = loaded("registry 0 7;garden 2;garden 9;child a 4 1 0 1;child b 0 2 0 1;child c 0 9 5 0;child d 1 9 0 1;"
+        InventedBirthdays x = Loading.of("registry 0 7;garden 2;garden 9;child a 4 1 0 1;child b 0 2 0 1;child c 0 9 5 0;child d 1 9 0 1;"
                 + "cakes 0 1;cakes 1 2;birthday a 1 2;birthday b 1 3;birthday c 1 3");
         is("a takes kind 0 as 4 and 5 are out", 1, () -> x.advance(1));
         is("kind 0", 0, () -> x.cakes(0));
@@ -675,26 +663,26 @@ public final class PromisesTest {
         for (int days : new int[] {0, -1, 721, LOW, HIGH}) {
             fails("days " + days, ARGUMENT, () -> x.advance(days));
         }
-        InventedBirthdays tight = loaded("registry 0 99;garden 9;cakes 0 9;child a 0 2 3 0;child b 0 1 3 0;child c 1 1 0 0;birthday a 1 2;birthday b 1 3");
+        InventedBirthdays tight = Loading.of("registry 0 99;garden 9;cakes 0 9;child a 0 2 3 0;child b 0 1 3 0;child c 1 1 0 0;birthday a 1 2;birthday b 1 3");
         tight.advance(2);
         promise(26);
         is("2 + 1 for 4", 0, () -> tight.wishesOf(0));
-        InventedBirthdays same = loaded("registry 0 99;garden 9;cakes 0 9;child a 0 2 2 0;child b 0 1 3 0;child c 1 1 0 0;birthday a 1 2;birthday b 1 3");
+        InventedBirthdays same = Loading.of("registry 0 99;garden 9;cakes 0 9;child a 0 2 2 0;child b 0 1 3 0;child c 1 1 0 0;birthday a 1 2;birthday b 1 3");
         same.advance(2);
         is("2 + 1 for 3", 1, () -> same.wishesOf(0));
         is("1 + 1 for 4", 0, () -> same.wishesOf(1));
-        InventedBirthdays seats = loaded("registry 0 99;garden 2;cakes 0 9;child a 1 2 3 0;child b 0 1 3 0;child c 0 1 0 0;birthday a 1 2;days 1");
+        InventedBirthdays seats = Loading.of("registry 0 99;garden 2;cakes 0 9;child a 1 2 3 0;child b 0 1 3 0;child c 0 1 0 0;birthday a 1 2;days 1");
         is("2 + 1, the garden seats one guest, for 4", 0, () -> seats.wishesOf(0));
-        InventedBirthdays young = loaded("registry 0 0;garden 2;cakes 0 1;child a 0 20 0 0;birthday a 1 2;days 1");
+        InventedBirthdays young = Loading.of("registry 0 0;garden 2;cakes 0 1;child a 0 20 0 0;birthday a 1 2;days 1");
         is("no candle at all", 0, () -> young.wishesOf(0));
         is("but a party", 1, () -> young.partiesOf(0));
         promise(44);
-        InventedBirthdays first = loaded("registry 0 9;garden 2;cakes 0 9;child a 0 20 0 0;birthday a 1 1;days 359");
+        InventedBirthdays first = Loading.of("registry 0 9;garden 2;cakes 0 9;child a 0 20 0 0;birthday a 1 1;days 359");
         is("the first day does not count", 0, first::heldParties);
         is("1/1", 1, () -> first.advance(1));
         is("1/2", 0, () -> first.advance(359));
         is("twice", 2, () -> first.advance(720));
-        InventedBirthdays last = atTheLastDay("");
+        InventedBirthdays last = Loading.atTheLastDay("");
         promise(6);
         is("99", 99, last::year);
         promise(44);
@@ -707,7 +695,7 @@ public final class PromisesTest {
 
     private static void theDraws() {
         promise(35);
-        InventedBirthdays x = loaded("registry 0 0;garden 3;garden 3;child a 0 1 0 0;child b 0 1 0 0;child c 0 1 0 1;birthday a 4 8");
+        InventedBirthdays x = Loading.of("registry 0 0;garden 3;garden 3;child a 0 1 0 0;child b 0 1 0 0;child c 0 1 0 1;birthday a 4 8");
         int second = (97 * 211 + 97) % 9973;
         is("a may have its own date again", 1, () -> x.drawsNeeded(0));
         is("97 is taken", 2, () -> x.drawsNeeded(1));
@@ -735,16 +723,16 @@ public final class PromisesTest {
                 birthdays += "birthday " + name + date + ";";
             }
         }
-        InventedBirthdays long12 = loaded("registry 9470 0;" + nine + ";" + birthdays.substring(0, birthdays.length() - 1));
+        InventedBirthdays long12 = Loading.of("registry 9470 0;" + nine + ";" + birthdays.substring(0, birthdays.length() - 1));
         is("nine dates are taken, two of them twice drawn", 12, () -> long12.drawsNeeded(0));
         promise(45);
         is("twelve", 12, () -> long12.draw(0));
-        InventedBirthdays always = loaded("registry 5176 0;garden 3;child a 0 1 0 0;child b 0 1 0 0;birthday a 5 17");
+        InventedBirthdays always = Loading.of("registry 5176 0;garden 3;child a 0 1 0 0;child b 0 1 0 0;birthday a 5 17");
         is("this seed draws itself", (5176 * 211 + 97) % 9973, always::seed);
         fails("20 dates are not enough", STATE, () -> always.draw(1));
         promise(35);
         is("20 dates are not enough", -1, () -> always.drawsNeeded(1));
-        InventedBirthdays full = loaded("registry 11 0;garden 1;garden 2;child a 0 1 0 0;child b 0 1 0 1;birthday b 1 1");
+        InventedBirthdays full = Loading.of("registry 11 0;garden 1;garden 2;child a 0 1 0 0;child b 0 1 0 1;birthday b 1 1");
         promise(35);
         is("too small", -1, () -> full.drawsNeeded(0));
         is("large enough", 1, () -> full.drawsNeeded(1));
@@ -752,11 +740,11 @@ public final class PromisesTest {
         fails("too small", STATE, () -> full.draw(0));
         is("the seed stays", 11, full::seed);
         fails("it is no change", STATE, full::undo);
-        is("in the text", (11 * 211 + 97) % 9973, loaded("registry 11 0;garden 1;child a 0 1 0 0;draw a")::seed);
+        is("in the text", (11 * 211 + 97) % 9973, Loading.of("registry 11 0;garden 1;child a 0 1 0 0;draw a")::seed);
     }
 
     private static void theBirthdays() {
-        InventedBirthdays x = loaded("registry 0 0;garden 3;garden 1;child a 0 1 0 0;child b 0 1 0 0;child c 0 1 0 1;days 10");
+        InventedBirthdays x = Loading.of("registry 0 0;garden 3;garden 1;child a 0 1 0 0;child b 0 1 0 0;child c 0 1 0 1;days 10");
         promise(46);
         is("tomorrow", 1, () -> x.setBirthday(0, 1, 12));
         is("today", 360, () -> x.setBirthday(0, 1, 11));
@@ -778,7 +766,7 @@ public final class PromisesTest {
     }
 
     private static void theMoves() {
-        InventedBirthdays x = loaded("registry 0 0;garden 3;garden 1;garden 2;child a 0 1 0 0;child b 0 1 0 0;child c 3 1 0 1;birthday a 1 5;birthday c 1 5");
+        InventedBirthdays x = Loading.of("registry 0 0;garden 3;garden 1;garden 2;child a 0 1 0 0;child b 0 1 0 0;child c 3 1 0 1;birthday a 1 5;birthday c 1 5");
         promise(48);
         is("b has no birthday", 0, () -> x.moveTo(1, 1));
         is("back", 1, () -> x.moveTo(1, 0));
@@ -793,12 +781,12 @@ public final class PromisesTest {
         for (int garden : new int[] {-1, 3, LOW, HIGH}) {
             fails("garden " + garden, INDEX, () -> x.moveTo(0, garden));
         }
-        InventedBirthdays grown = loaded("registry 0 0;garden 1;child a 0 1 0 0;birthday a 1 5;child b 0 1 0 0");
+        InventedBirthdays grown = Loading.of("registry 0 0;garden 1;child a 0 1 0 0;birthday a 1 5;child b 0 1 0 0");
         fails("its own garden is too small by now", STATE, () -> grown.moveTo(0, 0));
     }
 
     private static void thePurchases() {
-        InventedBirthdays x = loaded("registry 0 9000;cakes 3 98");
+        InventedBirthdays x = Loading.of("registry 0 9000;cakes 3 98");
         promise(49);
         is("one", 9001, () -> x.buyCandles(1));
         fails("10000", STATE, () -> x.buyCandles(999));
@@ -807,7 +795,7 @@ public final class PromisesTest {
         for (int number : new int[] {0, -1, 1000, LOW, HIGH}) {
             fails("number " + number, ARGUMENT, () -> x.buyCandles(number));
         }
-        is("many", 999, loaded("registry 0 0"), y -> y.buyCandles(999));
+        is("many", 999, Loading.of("registry 0 0"), y -> y.buyCandles(999));
         promise(50);
         is("99", 99, () -> x.bakeCakes(3, 1));
         fails("100", STATE, () -> x.bakeCakes(3, 1));
@@ -822,7 +810,7 @@ public final class PromisesTest {
     }
 
     private static void theHistory() {
-        InventedBirthdays x = loaded("registry 0 0;garden 3;child a 0 1 0 0;cakes 0 1;birthday a 1 5;draw a");
+        InventedBirthdays x = Loading.of("registry 0 0;garden 3;child a 0 1 0 0;cakes 0 1;birthday a 1 5;draw a");
         promise(52);
         fails("a text is no change", STATE, x::undo);
         for (int i = 1; i <= 12; i++) {
@@ -867,11 +855,11 @@ public final class PromisesTest {
         fails("none", STATE, x::undo);
         x.buyCandles(1);
         promise(3);
-        fails("an error", ARGUMENT, () -> load(x, "registry"));
+        fails("an error", ARGUMENT, () -> Loading.load(x, "registry"));
         promise(52);
         is("an error leaves the changes", 0, x::undo);
         x.buyCandles(1);
-        load(x, "registry 0 0");
+        Loading.load(x, "registry 0 0");
         fails("a text discards the changes", STATE, x::undo);
         x.append(0, 0, 0, 0, 0);
         x.writeDate();
@@ -885,7 +873,7 @@ public final class PromisesTest {
     }
 
     private static void theSavedStates() {
-        InventedBirthdays x = loaded("registry 3 50;garden 3;child a 0 1 0 0;cakes 0 9;birthday a 1 5;days 360");
+        InventedBirthdays x = Loading.of("registry 3 50;garden 3;child a 0 1 0 0;cakes 0 9;birthday a 1 5;days 360");
         promise(53);
         is("the year", 1, () -> x.save(0));
         fails("it is no change", STATE, x::undo);
@@ -922,16 +910,16 @@ public final class PromisesTest {
             fails("slot " + slot, INDEX, () -> x.save(slot));
         }
         promise(51);
-        fails("an error", ARGUMENT, () -> load(x, "x"));
+        fails("an error", ARGUMENT, () -> Loading.load(x, "x"));
         is("it leaves the saved states", 3, () -> x.restore(1));
-        load(x, "registry 0 0");
+        Loading.load(x, "registry 0 0");
         fails("a text discards them", STATE, () -> x.restore(0));
         fails("a text discards them", STATE, () -> x.restore(1));
         x.save(1);
         fails("the other slot", STATE, () -> x.restore(0));
         is("slot 1", 0, () -> x.restore(1));
         promise(3);
-        is("all names come back", 1, loaded(BASE + "child abcdef 0 1 0 0"), y -> {
+        is("all names come back", 1, Loading.of(BASE + "child abcdef 0 1 0 0"), y -> {
             y.save(0);
             y.advance(1);
             y.restore(0);
@@ -940,7 +928,7 @@ public final class PromisesTest {
     }
 
     private static void theOutput() {
-        InventedBirthdays x = loaded("registry 0 999;garden 3;child abcdef 0 1 99 0;child z 0 1 0 0;child az 0 1 10 0;cakes 0 9;birthday abcdef 12 30;birthday az 1 1");
+        InventedBirthdays x = Loading.of("registry 0 999;garden 3;child abcdef 0 1 99 0;child z 0 1 0 0;child az 0 1 10 0;cakes 0 9;birthday abcdef 12 30;birthday az 1 1");
         promise(54);
         is("six letters", "abcdef 99 12/30", x, x.writeChild(0));
         is("no birthday", "z 0", x, x.writeChild(1));
@@ -957,18 +945,18 @@ public final class PromisesTest {
         fails("extreme", INDEX, () -> x.outputByte(HIGH));
         fails("extreme", INDEX, () -> x.outputByte(LOW));
         promise(55);
-        is("the last date", "30.12.99", atTheLastDay(""), 0);
+        is("the last date", "30.12.99", Loading.atTheLastDay(""), 0);
         is("replaced", "30.12.0", x, x.writeDate());
         promise(56);
         fails("the longer text is gone", INDEX, () -> x.outputByte(7));
         fails("a wrong child", INDEX, () -> x.writeChild(3));
         is("leaves the output", '3', () -> x.outputByte(0));
-        load(x, "registry 0 0");
+        Loading.load(x, "registry 0 0");
         is("load leaves the output", '0', () -> x.outputByte(6));
     }
 
     private static void theThrowingCallsAlterNothing() {
-        InventedBirthdays x = loaded("registry 9 9998;garden 1;garden 3;child a 0 1 0 0;child b 0 1 0 1;cakes 0 99;birthday b 1 5");
+        InventedBirthdays x = Loading.of("registry 9 9998;garden 1;garden 3;child a 0 1 0 0;child b 0 1 0 1;cakes 0 99;birthday b 1 5");
         promise(44);
         fails("advance", ARGUMENT, () -> x.advance(0));
         promise(46);
@@ -998,30 +986,11 @@ public final class PromisesTest {
         promise = number;
     }
 
-    private static int load(InventedBirthdays x, String text) {
-        byte[] bytes = text.getBytes(StandardCharsets.ISO_8859_1);
-        for (int at = 0; at < bytes.length; at += 20) {
-            int[] words = new int[5];
-            for (int i = 0; i < 20; i++) {
-                int value = at + i < bytes.length ? bytes[at + i] & 255 : '#';
-                words[i / 4] = words[i / 4] << 8 | value;
-            }
-            x.append(words[0], words[1], words[2], words[3], words[4]);
-        }
-        return x.load(bytes.length);
-    }
-
-    private static InventedBirthdays loaded(String text) {
-        InventedBirthdays x = new InventedBirthdays();
-        load(x, text);
-        return x;
-    }
-
     private static void good(String text) {
         InventedBirthdays x = new InventedBirthdays();
         promise(3);
         int children = text.split("child ", -1).length - 1;
-        is("load '" + text + "'", children, () -> load(x, text));
+        is("load '" + text + "'", children, () -> Loading.load(x, text));
         promise(4);
         is("kind of '" + text + "'", 0, x::errorKind);
         promise(5);
@@ -1031,7 +1000,7 @@ public final class PromisesTest {
     private static void error(String text, int kind, int offset) {
         InventedBirthdays x = new InventedBirthdays();
         promise(3);
-        fails("load '" + text + "'", ARGUMENT, () -> load(x, text));
+        fails("load '" + text + "'", ARGUMENT, () -> Loading.load(x, text));
         is("the state stays after '" + text + "'", 3, x::childCount);
         promise(4);
         is("kind of '" + text + "'", kind, x::errorKind);
